@@ -644,40 +644,42 @@ public final class RepeatWays {
         }
 
         private void choose(int start, int length) {
-            int cell = cell(start, length);
+            int here = cell(start, length);
             if (length == 1) {
-                fewest[cell] = 1;
-                chosen[cell] = 0;
+                fewest[here] = 1;
+                chosen[here] = 0;
                 return;
             }
             // More than any way has, so that the first one is taken.
-            fewest[cell] = length + 1;
+            fewest[here] = length + 1;
             chooseBlock(start, length);
             chooseParts(start, length);
         }
 
         private void chooseBlock(int start, int length) {
-            int cell = cell(start, length);
+            int here = cell(start, length);
             for (int block = 1; 2 * block <= length; block++) {
                 if (length % block == 0
                         && alike[cell(start, start + block)] >= length - block
-                        && fewest[cell(start, block)] < fewest[cell]) {
-                    fewest[cell] = fewest[cell(start, block)];
-                    chosen[cell] = block;
+                        && fewest[cell(start, block)] < fewest[here]) {
+                    fewest[here] = fewest[cell(start, block)];
+                    chosen[here] = block;
                 }
             }
         }
 
         private void chooseParts(int start, int length) {
-            int cell = cell(start, length);
+            int here = cell(start, length);
+            int best = fewest[here];
             // Two parts have two bars at least: nothing fewer than these is to be found.
-            for (int first = 1; first < length && fewest[cell] > 2; first++) {
+            for (int first = 1; first < length && best > 2; first++) {
                 int both = fewest[cell(start, first)] + fewest[cell(start + first, length - first)];
-                if (both < fewest[cell]) {
-                    fewest[cell] = both;
-                    chosen[cell] = -first;
+                if (both < best) {
+                    best = both;
+                    chosen[here] = -first;
                 }
             }
+            fewest[here] = best;
         }
 
         private void writeItems(int n) {

@@ -225,6 +225,8 @@ public final class UnfoldTest {
         w.jump(3, 0, 2, false);
         plays("all repeats are left", w, "0 1 2 0 1 2 3 0 1 0 1 2 3");
         Check.is("all repeats are left: passes", Check.row(w, 3), "1 1 1 2 2 2 0 2 2 2 2 2 0");
+        w.jump(3, 0, 2, true);
+        plays("all repeats are left, and open anew", w, "0 1 2 0 1 2 3 0 1 2 0 1 0 1 2 0 1 2 3");
     }
 
     private static void firstOfThese() {
