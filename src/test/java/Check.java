@@ -24,7 +24,8 @@ final class Check {
         is(what, thrownBy(call), "IllegalStateException");
     }
 
-    private static String thrownBy(Runnable call) {
+    /** The name of what a call throws, or the word nothing. */
+    static String thrownBy(Runnable call) {
         try {
             call.run();
             return "nothing";

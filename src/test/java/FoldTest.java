@@ -1,3 +1,7 @@
+import java.util.ArrayList;
+import java.util.HashMap;
+import java.util.List;
+
 /** Promises 13 to 15: fold, folded and told. */
 public final class FoldTest {
     public static void main(String[] args) {
@@ -7,6 +11,7 @@ public final class FoldTest {
         firstWays();
         partOfRow();
         longRows();
+        allShortRows();
         whatStays();
         wrongInputs();
         told();
@@ -103,6 +108,31 @@ public final class FoldTest {
         x.unfold();
         x.fold(0, 4);
         Check.is("equal contents of one bar", text(x), "2(a)bc");
+    }
+
+    /** Every row of up to 10 of two letters, of up to 6 of three, as the document's words write it. */
+    private static void allShortRows() {
+        allRows("", "ab", 10);
+        allRows("", "abc", 6);
+    }
+
+    private static void allRows(String row, String letters, int more) {
+        if (!row.isEmpty()) {
+            List<Integer> contents = new ArrayList<>();
+            row.chars().forEach(contents::add);
+            folds(row, textOf(Model.write(contents, new HashMap<>())));
+        }
+        for (int k = 0; k < letters.length() && more > 0; k++) {
+            allRows(row + letters.charAt(k), letters, more - 1);
+        }
+    }
+
+    private static String textOf(List<int[]> items) {
+        StringBuilder text = new StringBuilder();
+        for (int[] item : items) {
+            text.append(item[0] == 0 ? "" + (char) item[1] : item[0] == 1 ? item[1] + "(" : ")");
+        }
+        return text.toString();
     }
 
     private static void whatStays() {

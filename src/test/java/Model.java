@@ -283,7 +283,7 @@ final class Model {
         return (int) items.stream().filter(item -> item[0] == 0).count();
     }
 
-    private static List<int[]> write(List<Integer> row, Map<List<Integer>, List<int[]>> known) {
+    static List<int[]> write(List<Integer> row, Map<List<Integer>, List<int[]>> known) {
         if (known.containsKey(row)) {
             return known.get(row);
         }
