@@ -48,6 +48,7 @@ public final class FoldTest {
         Check.is("bars of " + letters, bars, x.told(7));
     }
 
+    /** "A part of one is a bar"; a row without two blocks has a bar for each content. */
     private static void bars() {
         folds("a", "a");
         folds("ab", "ab");
@@ -55,6 +56,7 @@ public final class FoldTest {
         folds("abca", "abca");
     }
 
+    /** "A block, again and again ... (two blocks at least, all alike ...)"; "the bars of a block count once." */
     private static void blocks() {
         folds("aa", "2(a)");
         folds("aaaaaa", "6(a)");
@@ -62,9 +64,9 @@ public final class FoldTest {
         folds("abab", "2(ab)");
         folds("xababy", "x2(ab)y");
         folds("aab", "2(a)b");
-        folds("ababa", "a2(ba)");
     }
 
+    /** "(... the block being FOLDED likewise)", and both parts. */
     private static void blocksWithinBlocks() {
         folds("aabaab", "2(2(a)b)");
         folds("aabbaabb", "2(2(a)2(b))");
@@ -72,6 +74,7 @@ public final class FoldTest {
         folds("aabbaabbaabbaabb", "4(2(a)2(b))");
     }
 
+    /** "The first of these ways that has the fewest bars": a block of 1, of 2, ..; the first part of 1, of 2, .. */
     private static void firstWays() {
         folds("aaaa", "4(a)");
         folds("abababab", "4(ab)");
@@ -80,6 +83,7 @@ public final class FoldTest {
         folds("aabb", "2(a)2(b)");
         folds("abaab", "ab2(a)b");
         folds("aabaabaabaab", "4(2(a)b)");
+        folds("ababa", "a2(ba)");
     }
 
     private static void partOfRow() {
@@ -98,6 +102,7 @@ public final class FoldTest {
         Check.is("the row as it is played: items", text(y), "4(2(a)b)");
     }
 
+    /** 40 contents: the most items, the most bars, the most times. */
     private static void longRows() {
         folds("aabbccddeeffgghhiijjkkllmmnnooppqqrrsstt",
                 "2(a)2(b)2(c)2(d)2(e)2(f)2(g)2(h)2(i)2(j)2(k)2(l)2(m)2(n)2(o)2(p)2(q)2(r)2(s)2(t)");
