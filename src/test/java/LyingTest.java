@@ -217,6 +217,7 @@ public final class LyingTest {
         Check.is("played", x.unfold(), 2 * (60 + 1 + 1 + 2 + 5));
     }
 
+    /** "(60 at most)" and "three at most lie within one another", both at once. */
     private static void threeRepeatsAtTheLastOfSixtyBars() {
         RepeatWays x = Check.scoreOf(60);
         x.repeat(0, 59, 2);

@@ -108,8 +108,11 @@ public final class PlayingTest {
         plays("signs that no jump asks for", y, "0 1");
         RepeatWays z = thousand();
         z.bar(1);
+        // Behind the bar of fault 4, which would come first if the score were played.
+        z.jump(37, 1, 0, true);
+        fails("before 4", z, 1, 37);
         z.jump(5, 1, 0, true);
-        fails("before 4", z, 1, 5);
+        fails("before 4, from the left", z, 1, 5);
     }
 
     /** "Then the score is played, from bar 0 on": no bars, one bar. */
